@@ -52,9 +52,12 @@ public final class HistoryTest {
 
     private static StampDater used() {
         StampDater stamp = new StampDater();
+        stamp.set(2, 9);
         stamp.adjust(0);
         stamp.press(3, 4);
         stamp.keep();
+        stamp.set(1, 60);
+        stamp.press(6, 1);
         stamp.pass(7);
         stamp.adjust(7);
         stamp.press(5, 3);

@@ -321,6 +321,7 @@ public final class PressTest {
         Check.due("its strength", stamp.print(11, 5), 2);
         stamp.press(4, 1);
         Check.due("it is not known any more", stamp.print(11, 0), 40100);
+        Check.due("a thirteenth is not known", stamp.print(12, 0), -1);
         Check.due("the strength of the latest", stamp.print(0, 5), 4);
         Check.due("the day of the latest", stamp.print(0, 1), 3);
         for (int strength = 1; strength <= 9; strength++) {
@@ -346,6 +347,7 @@ public final class PressTest {
         Check.due("the first of them", stamp.print(0, 7), 59);
         Check.due("all clear: 290200", stamp.print(1, 6), 1);
         Check.due("the day", stamp.print(1, 7), 59);
+        onesAndTens();
         StampDater none = new StampDater();
         none.press(5, 1);
         Check.due("000000 is no date", none.print(0, 6), 0);
@@ -361,6 +363,34 @@ public final class PressTest {
         Check.due("all days agree", none.print(0, 6), 36525);
         Check.due("the first day", none.print(0, 7), 0);
         smudgedYears();
+    }
+
+    /** A stamp that shows 311299 with worn digits, but for one band: its digit is smudged by the strength 5. */
+    private static StampDater smudgedIn(int place) {
+        StampDater stamp = new StampDater();
+        stamp.fill(100);
+        stamp.adjust(36524);
+        stamp.press(5, 5);
+        stamp.fill(200);
+        // 40 + 50 - 10 is clear, 40 + 50 is smudged
+        stamp.set(1, 80);
+        stamp.replace(place);
+        stamp.adjust(36524);
+        return stamp;
+    }
+
+    private static void onesAndTens() {
+        int[] days = {4, 2, 1, 2, 10, 10};
+        int[] first = {1, 30, 12, 10, 9, 90};
+        for (int place = 0; place < 6; place++) {
+            StampDater stamp = smudgedIn(place);
+            stamp.press(5, 1);
+            Check.due("smudged in " + place, stamp.print(0, 3), 1 << place);
+            Check.due("days without the place " + place, stamp.print(0, 6), days[place]);
+            Check.due("the first one", stamp.date(stamp.print(0, 7), place / 2), first[place]);
+            stamp.press(5, 8);
+            Check.due("none is smudged any more", stamp.print(0, 3), 0);
+        }
     }
 
     private static void smudgedYears() {

@@ -7,6 +7,7 @@ public final class TrialTest {
         leastPress();
         lastsArguments();
         lasts();
+        twoHundredDays();
         lastsToTheLastDay();
         bestExchange();
         lowestOfSeveral();
@@ -140,6 +141,34 @@ public final class TrialTest {
         Check.due("slack lasts", stamp.lasts(9, 2), lasting(stamp, 9, 2));
     }
 
+    /** All digits are worn, so that they are not smudged, but for the ones of the years behind the year 00. */
+    private static StampDater smudgedAtNewYear() {
+        StampDater stamp = new StampDater();
+        stamp.set(0, 10);
+        for (int digit = 0; digit <= 9; digit++) {
+            stamp.press(4, 15);
+            for (int place = 0; place < 5; place++) {
+                stamp.turn(place, 1);
+            }
+        }
+        stamp.fill(200);
+        return stamp;
+    }
+
+    private static void twoHundredDays() {
+        StampDater stamp = smudgedAtNewYear();
+        stamp.pass(366 - 199);
+        Check.due("not right on the last of 200 days", stamp.lasts(9, 1), 199);
+        Check.due("no exchange is better", stamp.bestExchange(9, 1), best(stamp, 9, 1));
+        stamp.undo();
+        stamp.pass(366 - 200);
+        Check.due("not right on the day behind 200 days", stamp.lasts(9, 1), -5);
+        Check.due("nothing lasts longer", stamp.bestExchange(9, 1), -5);
+        stamp.undo();
+        stamp.pass(366);
+        Check.due("not right on the first day", stamp.lasts(9, 1), 0);
+    }
+
     private static void lastsToTheLastDay() {
         StampDater stamp = new StampDater();
         Check.type(stamp, "+999;+999;+999;+999;+999;+999;+999;+999;+999;+999;+999;+999");
@@ -161,14 +190,14 @@ public final class TrialTest {
         Check.due("no exchange is better", stamp.bestExchange(1, 1), -5);
     }
 
-    private static int best(int which, int strength, int times) {
-        int longest = stamp(which).lasts(strength, times);
+    private static int best(StampDater stamp, int strength, int times) {
+        int longest = stamp.lasts(strength, times);
         int best = -5;
         for (int first = 0; first < 6; first++) {
             for (int second = first + 1; second < 6; second++) {
-                StampDater stamp = stamp(which);
                 stamp.exchange(first, second);
                 int lasts = stamp.lasts(strength, times);
+                stamp.undo();
                 if (longest != -5 && (lasts == -5 || lasts > longest)) {
                     longest = lasts;
                     best = 10 * first + second;
@@ -185,7 +214,7 @@ public final class TrialTest {
             for (int strength = 1; strength <= 9; strength++) {
                 for (int times : new int[] {1, 3}) {
                     int best = stamp(which).bestExchange(strength, times);
-                    Check.due("bestExchange(" + strength + ", " + times + ") of " + which, best, best(which, strength, times));
+                    Check.due("bestExchange(" + strength + ", " + times + ") of " + which, best, best(stamp(which), strength, times));
                     sawBest |= best > 0;
                     sawNone |= best == -5;
                 }

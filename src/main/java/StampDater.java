@@ -751,7 +751,7 @@ public final class StampDater {
         int ink;
         int steps;
         int slips;
-        /** The places that were faint and smudged in the latest print, as sets of bits. */
+        /** The places that were faint and smudged in the print just made, as sets of bits; they go with no copy. */
         int faintPlaces;
         int smudgedPlaces;
 
@@ -775,8 +775,6 @@ public final class StampDater {
             ink = other.ink;
             steps = other.steps;
             slips = other.slips;
-            faintPlaces = other.faintPlaces;
-            smudgedPlaces = other.smudgedPlaces;
         }
 
         int shownDigits() {

@@ -59,7 +59,7 @@ public final class StampDater {
         if (state.today + days > LAST_DAY) {
             return FULL;
         }
-        history.record(state);
+        history.remember(state);
         state.today += days;
         return state.today;
     }
@@ -69,7 +69,7 @@ public final class StampDater {
         if (!Dates.isDay(day)) {
             return UNKNOWN;
         }
-        history.record(state);
+        history.remember(state);
         return state.stamp.showDigits(Dates.digitsOf(day));
     }
 
@@ -81,7 +81,7 @@ public final class StampDater {
         if (steps == 0 || !isWithin(steps, -9, 9)) {
             return BAD_VALUE;
         }
-        history.record(state);
+        history.remember(state);
         state.stamp.turnBand(place, steps);
         return state.stamp.bands[place].shown;
     }
@@ -93,7 +93,7 @@ public final class StampDater {
         if (!isStrength(strength) || !isWithin(times, 1, MOST_TIMES)) {
             return BAD_VALUE;
         }
-        history.record(state);
+        history.remember(state);
         return state.printTimes(strength, times);
     }
 
@@ -105,7 +105,7 @@ public final class StampDater {
         if (state.stamp.ink >= MOST_INK) {
             return NONE;
         }
-        history.record(state);
+        history.remember(state);
         state.stamp.addInk(ink);
         return state.stamp.ink;
     }
@@ -118,7 +118,7 @@ public final class StampDater {
         if (place == other) {
             return NONE;
         }
-        history.record(state);
+        history.remember(state);
         state.stamp.swapBands(place, other);
         return state.stamp.bands[place].number;
     }
@@ -132,7 +132,7 @@ public final class StampDater {
         if (slack == 0) {
             return NONE;
         }
-        history.record(state);
+        history.remember(state);
         state.stamp.bands[place].slack = 0;
         return slack;
     }
@@ -142,7 +142,7 @@ public final class StampDater {
         if (!isPlace(place)) {
             return UNKNOWN;
         }
-        history.record(state);
+        history.remember(state);
         Band band = state.stamp.bands[place];
         int wear = band.allWear();
         band.renew();
@@ -158,7 +158,7 @@ public final class StampDater {
         if (previous == value) {
             return NONE;
         }
-        history.record(state);
+        history.remember(state);
         state.stamp.settings[which] = value;
         return previous;
     }
@@ -191,7 +191,7 @@ public final class StampDater {
         if (state.today + text.days > LAST_DAY) {
             return FULL;
         }
-        history.record(state);
+        history.remember(state);
         int orders = text.orders;
         text.begin();
         for (int order = 0; order < orders; order++) {
@@ -238,7 +238,7 @@ public final class StampDater {
 
     /** Takes a snapshot of the state. Returns the day of today. */
     public int keep() {
-        snapshot.copyFrom(state);
+        snapshot.copyState(state);
         snapshotTaken = true;
         return state.today;
     }
@@ -248,8 +248,8 @@ public final class StampDater {
         if (!snapshotTaken) {
             return NONE;
         }
-        history.record(state);
-        state.copyFrom(snapshot);
+        history.remember(state);
+        state.copyState(snapshot);
         return state.today;
     }
 
@@ -459,7 +459,7 @@ public final class StampDater {
 
     /** The days of right prints of a stamp like this one with two bands exchanged; ENDLESS if no day ends them. */
     private int daysOfTrial(int first, int second, int strength, int times) {
-        trial.copyFrom(state.stamp);
+        trial.copyStamp(state.stamp);
         trial.swapBands(first, second);
         int ink = trial.ink;
         for (int days = 0; days < ENDLESS && state.today + days <= LAST_DAY; days++) {
@@ -582,7 +582,7 @@ public final class StampDater {
                 case 5:
                     return true;
                 default:
-                    return dayOf(digits) != NONE;
+                    return dayOfMonth(digits) <= daysOf(month(digits), year(digits));
             }
         }
 
@@ -675,7 +675,7 @@ public final class StampDater {
             wears = new int[DIGITS];
         }
 
-        void copyFrom(Band other) {
+        void copyBand(Band other) {
             number = other.number;
             shown = other.shown;
             slack = other.slack;
@@ -767,9 +767,9 @@ public final class StampDater {
             ink = FIRST_INK;
         }
 
-        void copyFrom(Stamp other) {
+        void copyStamp(Stamp other) {
             for (int place = 0; place < PLACES; place++) {
-                bands[place].copyFrom(other.bands[place]);
+                bands[place].copyBand(other.bands[place]);
             }
             System.arraycopy(other.settings, 0, settings, 0, SETTINGS);
             ink = other.ink;
@@ -894,7 +894,7 @@ public final class StampDater {
         boolean right;
         int strength;
 
-        void copyFrom(Print other) {
+        void copyPrint(Print other) {
             digits = other.digits;
             day = other.day;
             faint = other.faint;
@@ -946,10 +946,10 @@ public final class StampDater {
             }
         }
 
-        void copyFrom(State other) {
-            stamp.copyFrom(other.stamp);
+        void copyState(State other) {
+            stamp.copyStamp(other.stamp);
             for (int row = 0; row < KNOWN_PRINTS; row++) {
-                prints[row].copyFrom(other.prints[row]);
+                prints[row].copyPrint(other.prints[row]);
             }
             today = other.today;
             printed = other.printed;
@@ -1026,12 +1026,12 @@ public final class StampDater {
             }
         }
 
-        void record(State state) {
+        void remember(State state) {
             if (size >= HISTORY_ROOM) {
                 dropOldest();
             }
             if (size >= 0 && size < HISTORY_ROOM) {
-                states[size].copyFrom(state);
+                states[size].copyState(state);
                 size++;
             }
         }
@@ -1049,7 +1049,7 @@ public final class StampDater {
         void takeLatest(State state) {
             if (size > 0 && size <= HISTORY_ROOM) {
                 size--;
-                state.copyFrom(states[size]);
+                state.copyState(states[size]);
             }
         }
     }

@@ -110,7 +110,7 @@ public final class StampDater {
         return state.stamp.ink;
     }
 
-    /** Exchanges the bands in two places (an act). Returns the band in the first one then; UNKNOWN; NONE if both are the same. */
+    /** Exchanges the bands in two places (an act). Returns the band in the first one; UNKNOWN; NONE if both are one. */
     public int exchange(int place, int other) {
         if (!isPlace(place) || !isPlace(other)) {
             return UNKNOWN;
@@ -123,7 +123,7 @@ public final class StampDater {
         return state.stamp.bands[place].number;
     }
 
-    /** Takes the slack from the band in a place (an act). Returns the slack that it had; UNKNOWN; NONE if it had none. */
+    /** Takes the slack from the band in a place (an act). Returns how much it had; UNKNOWN; NONE if it had none. */
     public int tighten(int place) {
         if (!isPlace(place)) {
             return UNKNOWN;
@@ -657,7 +657,7 @@ public final class StampDater {
             return pairAgrees(year, year(digits), places >> 4);
         }
 
-        /** Whether two digits agree with two others: in the tens if the lowest bit is set, in the ones if the next is. */
+        /** Whether two digits agree with two others: in the tens by the lowest bit, in the ones by the next. */
         private static boolean pairAgrees(int pair, int other, int bits) {
             return ((bits & 1) == 0 || pair / 10 == other / 10) && ((bits & 2) == 0 || pair % 10 == other % 10);
         }

@@ -2,8 +2,6 @@ import java.time.LocalDate;
 
 /** Promises 1 to 4, 18, 19 and 26: days, dates, adjusting. */
 public final class DaysTest {
-    private static final int MIN = Integer.MIN_VALUE;
-    private static final int MAX = Integer.MAX_VALUE;
     private static final LocalDate FIRST = LocalDate.of(2000, 1, 1);
 
     public static void main(String[] args) {
@@ -46,7 +44,7 @@ public final class DaysTest {
 
     private static void pass() {
         StampDater stamp = new StampDater();
-        for (int days : new int[] {MIN, -1, 0, 1000, MAX}) {
+        for (int days : new int[] {Check.MIN, -1, 0, 1000, Check.MAX}) {
             Check.due("pass(" + days + ")", stamp.pass(days), -2);
         }
         Check.due("history without acts", stamp.count(11), 0);
@@ -68,7 +66,7 @@ public final class DaysTest {
 
     private static void adjust() {
         StampDater stamp = new StampDater();
-        for (int day : new int[] {MIN, -1, 36525, MAX}) {
+        for (int day : new int[] {Check.MIN, -1, 36525, Check.MAX}) {
             Check.due("adjust(" + day + ")", stamp.adjust(day), -1);
         }
         Check.due("no act", stamp.count(11), 0);
@@ -103,11 +101,11 @@ public final class DaysTest {
 
     private static void turn() {
         StampDater stamp = new StampDater();
-        for (int place : new int[] {MIN, -1, 6, MAX}) {
+        for (int place : new int[] {Check.MIN, -1, 6, Check.MAX}) {
             Check.due("turn(" + place + ", 1)", stamp.turn(place, 1), -1);
             Check.due("turn(" + place + ", 0)", stamp.turn(place, 0), -1);
         }
-        for (int steps : new int[] {MIN, -10, 0, 10, MAX}) {
+        for (int steps : new int[] {Check.MIN, -10, 0, 10, Check.MAX}) {
             Check.due("turn(0, " + steps + ")", stamp.turn(0, steps), -2);
         }
         Check.due("no act", stamp.count(11) + stamp.count(6), 0);
@@ -124,14 +122,15 @@ public final class DaysTest {
 
     private static void date() {
         StampDater stamp = new StampDater();
-        for (int day : new int[] {MIN, -1, 36525, MAX}) {
+        for (int day : new int[] {Check.MIN, -1, 36525, Check.MAX}) {
             Check.due("date(" + day + ", 0)", stamp.date(day, 0), -1);
             Check.due("date(" + day + ", 9)", stamp.date(day, 9), -1);
         }
-        for (int what : new int[] {MIN, -1, 4, MAX}) {
+        for (int what : new int[] {Check.MIN, -1, 4, Check.MAX}) {
             Check.due("date(0, " + what + ")", stamp.date(0, what), -2);
         }
         for (int day = 0; day <= 36524; day++) {
+            stamp = day % 100 == 0 ? new StampDater() : stamp;
             LocalDate date = FIRST.plusDays(day);
             Check.due("day of month of " + day, stamp.date(day, 0), date.getDayOfMonth());
             Check.due("month of " + day, stamp.date(day, 1), date.getMonthValue());
@@ -146,7 +145,7 @@ public final class DaysTest {
 
     private static void day() {
         StampDater stamp = new StampDater();
-        for (int digits : new int[] {MIN, -1, 1000000, MAX}) {
+        for (int digits : new int[] {Check.MIN, -1, 1000000, Check.MAX}) {
             Check.due("day(" + digits + ")", stamp.day(digits), -2);
         }
         int[] days = new int[1000000];
@@ -155,13 +154,14 @@ public final class DaysTest {
             days[digits(FIRST.plusDays(day))] = day;
         }
         for (int digits = 0; digits < days.length; digits++) {
+            stamp = digits % 500 == 0 ? new StampDater() : stamp;
             Check.due("day(" + digits + ")", stamp.day(digits), days[digits]);
         }
     }
 
     private static void stepsTo() {
         StampDater stamp = new StampDater();
-        for (int day : new int[] {MIN, -1, 36525, MAX}) {
+        for (int day : new int[] {Check.MIN, -1, 36525, Check.MAX}) {
             Check.due("stepsTo(" + day + ")", stamp.stepsTo(day), -1);
         }
         stamp.turn(0, 2);

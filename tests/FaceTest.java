@@ -114,7 +114,7 @@ public final class FaceTest {
         for (char character : "a;p1;p1;p1;p1;p1;p1;p1;i200;p1;+1;a;p1;i200;p1;p1;+1;a;p1".toCharArray()) {
             stamp.type(character);
         }
-        for (int round = 0; round < 100; round++) {
+        for (int round = 0; round < 95; round++) {
             for (int place = 0; place < 6 && round % 10 == 0; place++) {
                 stamp.replace(place);
             }

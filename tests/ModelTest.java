@@ -48,7 +48,7 @@ public final class ModelTest {
     private String order() {
         switch (draw(7)) {
             case 0:
-                return String.format("d%06d", stamp.date(draw(36525), 3));
+                return String.format("d%06d", model.date(draw(36525), 3));
             case 1:
             case 2:
                 return "a";
@@ -121,7 +121,7 @@ public final class ModelTest {
     }
 
     private int someDay() {
-        int today = stamp.count(0);
+        int today = model.count(0);
         return draw(3) != 0 ? Math.min(36524, today + draw(3)) : number(0, 36524);
     }
 
@@ -134,7 +134,7 @@ public final class ModelTest {
                 break;
             case 1:
             case 2:
-                int day = draw(2) == 0 ? stamp.count(0) : someDay();
+                int day = draw(2) == 0 ? model.count(0) : someDay();
                 due("adjust(" + day + ")", stamp.adjust(day), model.adjust(day));
                 break;
             case 3:

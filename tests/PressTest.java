@@ -1,8 +1,5 @@
 /** Promises 5 to 10, 20 to 23 and 25: pressing, mending, bands, prints. */
 public final class PressTest {
-    private static final int MIN = Integer.MIN_VALUE;
-    private static final int MAX = Integer.MAX_VALUE;
-
     public static void main(String[] args) {
         pressArguments();
         pressWearsAndInks();
@@ -25,10 +22,10 @@ public final class PressTest {
 
     private static void pressArguments() {
         StampDater stamp = new StampDater();
-        for (int strength : new int[] {MIN, -1, 0, 10, MAX}) {
+        for (int strength : new int[] {Check.MIN, -1, 0, 10, Check.MAX}) {
             Check.due("press(" + strength + ", 1)", stamp.press(strength, 1), -2);
         }
-        for (int times : new int[] {MIN, -1, 0, 100, MAX}) {
+        for (int times : new int[] {Check.MIN, -1, 0, 100, Check.MAX}) {
             Check.due("press(5, " + times + ")", stamp.press(5, times), -2);
         }
         Check.due("nothing is printed", stamp.count(2) + stamp.count(11), 0);
@@ -144,7 +141,7 @@ public final class PressTest {
 
     private static void fill() {
         StampDater stamp = new StampDater();
-        for (int ink : new int[] {MIN, -1, 0, 201, MAX}) {
+        for (int ink : new int[] {Check.MIN, -1, 0, 201, Check.MAX}) {
             Check.due("fill(" + ink + ")", stamp.fill(ink), -2);
         }
         Check.due("fill(1)", stamp.fill(1), 101);
@@ -158,7 +155,7 @@ public final class PressTest {
 
     private static void exchange() {
         StampDater stamp = new StampDater();
-        for (int place : new int[] {MIN, -1, 6, MAX}) {
+        for (int place : new int[] {Check.MIN, -1, 6, Check.MAX}) {
             Check.due("exchange(" + place + ", 0)", stamp.exchange(place, 0), -1);
             Check.due("exchange(0, " + place + ")", stamp.exchange(0, place), -1);
             Check.due("exchange(" + place + ", same)", stamp.exchange(place, place), -1);
@@ -182,7 +179,7 @@ public final class PressTest {
 
     private static void tighten() {
         StampDater stamp = new StampDater();
-        for (int place : new int[] {MIN, -1, 6, MAX}) {
+        for (int place : new int[] {Check.MIN, -1, 6, Check.MAX}) {
             Check.due("tighten(" + place + ")", stamp.tighten(place), -1);
         }
         Check.due("tighten without slack", stamp.tighten(0), -5);
@@ -198,7 +195,7 @@ public final class PressTest {
 
     private static void replace() {
         StampDater stamp = new StampDater();
-        for (int place : new int[] {MIN, -1, 6, MAX}) {
+        for (int place : new int[] {Check.MIN, -1, 6, Check.MAX}) {
             Check.due("replace(" + place + ")", stamp.replace(place), -1);
         }
         Check.due("replace a new one", stamp.replace(0), 0);
@@ -221,11 +218,11 @@ public final class PressTest {
         int[] least = {10, 60, 1};
         int[] most = {60, 150, 99};
         int[] first = {30, 100, 40};
-        for (int which : new int[] {MIN, -1, 3, MAX}) {
+        for (int which : new int[] {Check.MIN, -1, 3, Check.MAX}) {
             Check.due("set(" + which + ", 60)", stamp.set(which, 60), -2);
         }
         for (int which = 0; which < 3; which++) {
-            for (int value : new int[] {MIN, least[which] - 1, most[which] + 1, MAX}) {
+            for (int value : new int[] {Check.MIN, least[which] - 1, most[which] + 1, Check.MAX}) {
                 Check.due("set(" + which + ", " + value + ")", stamp.set(which, value), -2);
             }
             Check.due("set as it is", stamp.set(which, first[which]), -5);
@@ -242,11 +239,11 @@ public final class PressTest {
 
     private static void band() {
         StampDater stamp = new StampDater();
-        for (int place : new int[] {MIN, -1, 6, MAX}) {
+        for (int place : new int[] {Check.MIN, -1, 6, Check.MAX}) {
             Check.due("band(" + place + ", 0)", stamp.band(place, 0), -1);
             Check.due("band(" + place + ", 9)", stamp.band(place, 9), -1);
         }
-        for (int what : new int[] {MIN, -1, 7, MAX}) {
+        for (int what : new int[] {Check.MIN, -1, 7, Check.MAX}) {
             Check.due("band(0, " + what + ")", stamp.band(0, what), -2);
         }
         stamp.turn(3, 4);
@@ -281,11 +278,11 @@ public final class PressTest {
 
     private static void wear() {
         StampDater stamp = new StampDater();
-        for (int place : new int[] {MIN, -1, 6, MAX}) {
+        for (int place : new int[] {Check.MIN, -1, 6, Check.MAX}) {
             Check.due("wear(" + place + ", 0)", stamp.wear(place, 0), -1);
             Check.due("wear(" + place + ", 10)", stamp.wear(place, 10), -1);
         }
-        for (int digit : new int[] {MIN, -1, 10, MAX}) {
+        for (int digit : new int[] {Check.MIN, -1, 10, Check.MAX}) {
             Check.due("wear(0, " + digit + ")", stamp.wear(0, digit), -2);
         }
         stamp.turn(5, 9);
@@ -303,10 +300,10 @@ public final class PressTest {
         stamp.press(2, 1);
         Check.due("one print", stamp.print(0, 0), 10100);
         Check.due("no second", stamp.print(1, 0), -1);
-        for (int print : new int[] {MIN, -1, 12, MAX}) {
+        for (int print : new int[] {Check.MIN, -1, 12, Check.MAX}) {
             Check.due("print(" + print + ", 0)", stamp.print(print, 0), -1);
         }
-        for (int what : new int[] {MIN, -1, 8, MAX}) {
+        for (int what : new int[] {Check.MIN, -1, 8, Check.MAX}) {
             Check.due("print(0, " + what + ")", stamp.print(0, what), -2);
         }
         stamp.pass(3);
@@ -417,7 +414,7 @@ public final class PressTest {
 
     private static void rightOf() {
         StampDater stamp = new StampDater();
-        for (int day : new int[] {MIN, -1, 36525, MAX}) {
+        for (int day : new int[] {Check.MIN, -1, 36525, Check.MAX}) {
             Check.due("rightOf(" + day + ")", stamp.rightOf(day), -1);
         }
         stamp.fill(100);

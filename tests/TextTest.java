@@ -27,7 +27,7 @@ public final class TextTest {
     private static void clearText() {
         StampDater stamp = new StampDater();
         Check.due("clearText of nothing", stamp.clearText(), 0);
-        Check.type(stamp, "a;a");
+        Stamps.type(stamp, "a;a");
         Check.due("clearText()", stamp.clearText(), 3);
         Check.due("length", stamp.count(12), 0);
         Check.due("fault()", stamp.fault(), 0);
@@ -38,7 +38,7 @@ public final class TextTest {
 
     private static void fault(String text, int want) {
         StampDater stamp = new StampDater();
-        Check.type(stamp, text);
+        Stamps.type(stamp, text);
         Check.due("fault of \"" + text + "\"", stamp.fault(), want);
         if (want != -5) {
             Check.due("doAll of \"" + text + "\"", stamp.doAll(), -100 - want);
@@ -142,37 +142,37 @@ public final class TextTest {
         }
         fault(longest.toString(), -5);
         StampDater stamp = new StampDater();
-        Check.type(stamp, longest.toString());
+        Stamps.type(stamp, longest.toString());
         Check.due("orders", stamp.doAll(), 30);
     }
 
     private static void doAllErrors() {
         StampDater stamp = new StampDater();
         Check.due("doAll of nothing", stamp.doAll(), -100);
-        Check.type(stamp, "+999;+999;+999;+999;+999;+999;+999;+999;+999;+999;+999;+999");
+        Stamps.type(stamp, "+999;+999;+999;+999;+999;+999;+999;+999;+999;+999;+999;+999");
         for (int time = 1; time <= 3; time++) {
             Check.due("doAll", stamp.doAll(), 12);
             Check.due("today", stamp.count(0), time * 12 * 999);
         }
-        String before = Check.told(stamp);
+        String before = Stamps.stateInShort(stamp);
         Check.due("doAll beyond the last day", stamp.doAll(), -3);
-        Check.same("doAll beyond the last day", Check.told(stamp), before);
-        Check.type(stamp, "p1;+300;i5;a;+260;p1;+1");
+        Check.same("doAll beyond the last day", Stamps.stateInShort(stamp), before);
+        Stamps.type(stamp, "p1;+300;i5;a;+260;p1;+1");
         Check.due("all or none", stamp.doAll(), -3);
         Check.due("no print", stamp.count(2), 0);
         Check.due("no ink", stamp.count(1), 100);
-        Check.type(stamp, "+300;+260;p0");
+        Stamps.type(stamp, "+300;+260;p0");
         Check.due("a fault is told first", stamp.doAll(), -111);
-        Check.type(stamp, "+300;+260");
+        Stamps.type(stamp, "+300;+260");
         Check.due("to the last day", stamp.doAll(), 2);
         Check.due("the last day", stamp.count(0), 36524);
-        Check.type(stamp, "a;+1");
+        Stamps.type(stamp, "a;+1");
         Check.due("no more", stamp.doAll(), -3);
     }
 
     private static void doAllOrders() {
         StampDater stamp = new StampDater();
-        Check.type(stamp, "d020100;+1;p5x2;a;p5;i200;i200");
+        Stamps.type(stamp, "d020100;+1;p5x2;a;p5;i200;i200");
         Check.due("doAll", stamp.doAll(), 7);
         Check.due("one act", stamp.count(11), 1);
         Check.due("the text stays", stamp.count(12), 30);
@@ -183,14 +183,14 @@ public final class TextTest {
         Check.due("undo", stamp.undo(), 0);
         Check.due("the text stays", stamp.count(12), 30);
         Check.due("nothing is done", stamp.count(0) + stamp.count(2) + stamp.count(6) + stamp.count(10), 0);
-        Check.type(stamp, "d010100;d010100");
+        Stamps.type(stamp, "d010100;d010100");
         Check.due("an act without steps", stamp.doAll() + stamp.doAll(), 4);
         Check.due("two acts", stamp.count(11), 2);
     }
 
     private static void doAllIsAsTheCalls() {
         StampDater byText = new StampDater();
-        Check.type(byText, "a;p9x12;+31;a;p7;i55;d311299;p8x2");
+        Stamps.type(byText, "a;p9x12;+31;a;p7;i55;d311299;p8x2");
         Check.due("doAll", byText.doAll(), 8);
         StampDater byCalls = new StampDater();
         byCalls.adjust(0);
@@ -210,6 +210,6 @@ public final class TextTest {
         byText.clearText();
         byText.restore();
         byCalls.restore();
-        Check.same("doAll", Check.told(byText), Check.told(byCalls));
+        Check.same("doAll", Stamps.state(byText), Stamps.state(byCalls));
     }
 }

@@ -1,16 +1,9 @@
 /** Promises 27 to 29: what would be. */
 public final class TrialTest {
-    private static final int MIN = Integer.MIN_VALUE;
-    private static final int MAX = Integer.MAX_VALUE;
-
     public static void main(String[] args) {
         leastPress();
-        lastsArguments();
         lasts();
-        twoHundredDays();
-        lastsToTheLastDay();
         bestExchange();
-        lowestOfSeveral();
         Check.end("TrialTest");
     }
 
@@ -57,33 +50,24 @@ public final class TrialTest {
         Check.due("not even the strongest", strong.leastPress(), -5);
     }
 
-    private static void lastsArguments() {
-        StampDater stamp = new StampDater();
-        for (int strength : new int[] {MIN, -1, 0, 10, MAX}) {
-            Check.due("lasts(" + strength + ", 1)", stamp.lasts(strength, 1), -2);
-            Check.due("bestExchange(" + strength + ", 1)", stamp.bestExchange(strength, 1), -2);
-        }
-        for (int times : new int[] {MIN, -1, 0, 21, MAX}) {
-            Check.due("lasts(5, " + times + ")", stamp.lasts(5, times), -2);
-            Check.due("bestExchange(5, " + times + ")", stamp.bestExchange(5, times), -2);
-        }
-    }
-
-    /** What lasts() is to tell, found by the calls that it stands for. */
+    /** What lasts() is to tell, found by the orders that it stands for. */
     private static int lasting(StampDater stamp, int strength, int times) {
-        int ink = stamp.count(1);
-        int left = 36524 - stamp.count(0);
+        int spent = Math.min(stamp.count(1), strength * times);
+        int left = Stamps.LAST_DAY - stamp.count(0);
+        int right = stamp.count(3);
+        String orders = "a;p" + strength + "x" + times + (spent > 0 ? ";i" + spent : "");
+        Stamps.type(stamp, orders + ";+1");
         for (int days = 0; days < 200 && days <= left; days++) {
-            stamp.adjust(stamp.count(0));
-            if (stamp.press(strength, times) != times) {
+            if (days == left) {
+                Stamps.type(stamp, orders);
+            }
+            stamp.doAll();
+            right += times;
+            if (stamp.count(3) != right) {
                 return days;
             }
-            if (stamp.count(1) < ink) {
-                stamp.fill(ink - stamp.count(1));
-            }
-            stamp.pass(1);
         }
-        return -5;
+        return Check.NONE;
     }
 
     private static StampDater stamp(int which) {
@@ -141,55 +125,6 @@ public final class TrialTest {
         Check.due("slack lasts", stamp.lasts(9, 2), lasting(stamp, 9, 2));
     }
 
-    /** All digits are worn, so that they are not smudged, but for the ones of the years behind the year 00. */
-    private static StampDater smudgedAtNewYear() {
-        StampDater stamp = new StampDater();
-        stamp.set(0, 10);
-        for (int digit = 0; digit <= 9; digit++) {
-            stamp.press(4, 15);
-            for (int place = 0; place < 5; place++) {
-                stamp.turn(place, 1);
-            }
-        }
-        stamp.fill(200);
-        return stamp;
-    }
-
-    private static void twoHundredDays() {
-        StampDater stamp = smudgedAtNewYear();
-        stamp.pass(366 - 199);
-        Check.due("not right on the last of 200 days", stamp.lasts(9, 1), 199);
-        Check.due("no exchange is better", stamp.bestExchange(9, 1), best(stamp, 9, 1));
-        stamp.undo();
-        stamp.pass(366 - 200);
-        Check.due("not right on the day behind 200 days", stamp.lasts(9, 1), -5);
-        Check.due("nothing lasts longer", stamp.bestExchange(9, 1), -5);
-        stamp.undo();
-        stamp.pass(366);
-        Check.due("not right on the first day", stamp.lasts(9, 1), 0);
-    }
-
-    private static void lastsToTheLastDay() {
-        StampDater stamp = new StampDater();
-        Check.type(stamp, "+999;+999;+999;+999;+999;+999;+999;+999;+999;+999;+999;+999");
-        stamp.doAll();
-        stamp.doAll();
-        stamp.doAll();
-        stamp.pass(36500 - stamp.count(0));
-        // 8 + 25 - wear: from the day 0 on it is right for four days
-        Check.due("lasts to a day", stamp.lasts(1, 1), 4);
-        Check.due("longer days", stamp.lasts(3, 1), 20);
-        stamp.pass(36524 - stamp.count(0) - 3);
-        Check.due("four days are left", stamp.lasts(1, 1), -5);
-        stamp.undo();
-        stamp.pass(36524 - stamp.count(0) - 4);
-        Check.due("five days are left", stamp.lasts(1, 1), 4);
-        stamp.pass(4);
-        Check.due("the last day", stamp.lasts(1, 1), -5);
-        Check.due("the last day, in vain", stamp.lasts(1, 5), 0);
-        Check.due("no exchange is better", stamp.bestExchange(1, 1), -5);
-    }
-
     private static int best(StampDater stamp, int strength, int times) {
         int longest = stamp.lasts(strength, times);
         int best = -5;
@@ -222,41 +157,5 @@ public final class TrialTest {
         }
         Check.due("saw an exchange", sawBest ? 1 : 0, 1);
         Check.due("saw NONE", sawNone ? 1 : 0, 1);
-    }
-
-    /** A stamp on the day 0, of which only the band in one place is so worn at 0 that the 0 is faint. */
-    private static StampDater wornAtZero(int place) {
-        StampDater stamp = new StampDater();
-        for (int other = 0; other < 6; other++) {
-            if (other != place) {
-                stamp.turn(other, -1);
-            }
-        }
-        stamp.press(1, 5);
-        stamp.fill(5);
-        return stamp;
-    }
-
-    private static int lastsExchanged(StampDater stamp, int place, int other) {
-        stamp.exchange(place, other);
-        int lasts = stamp.lasts(1, 1);
-        stamp.undo();
-        return lasts;
-    }
-
-    private static void lowestOfSeveral() {
-        StampDater years = wornAtZero(4);
-        Check.due("faint at once", years.lasts(1, 1), 0);
-        Check.due("exchanged with the days", lastsExchanged(years, 1, 4), 4);
-        Check.due("exchanged with the months", lastsExchanged(years, 3, 4), 4);
-        Check.due("the lowest first place", years.bestExchange(1, 1), 14);
-        StampDater days = wornAtZero(0);
-        Check.due("exchanged with the days", lastsExchanged(days, 0, 1), 4);
-        Check.due("exchanged with the months", lastsExchanged(days, 0, 3), 4);
-        Check.due("the lowest second place", days.bestExchange(1, 1), 1);
-        StampDater months = wornAtZero(2);
-        Check.due("exchanged with the days", lastsExchanged(months, 1, 2), 4);
-        Check.due("the first place is the lower one", months.bestExchange(1, 1), 12);
-        Check.due("it changes nothing", months.band(1, 0), 1);
     }
 }

@@ -74,8 +74,10 @@ public final class EdgesOfActsTest {
             Check.due("two acts", stamp.count(11), 2);
             Check.due("no more steps", stamp.count(6), 9);
         });
+        acts.test("- `day`: 0 to 36524", "adjust", () ->
+                Range.test("adjust", 0, Stamps.LAST_DAY, Check.UNKNOWN, day -> new StampDater().adjust(day)));
         acts.test("Returns how many steps the bands turn; UNKNOWN.", () -> {
-            Range.test("adjust", 0, Stamps.LAST_DAY, Check.UNKNOWN, day -> new StampDater().adjust(day));
+            Check.due("a day that there is not", new StampDater().adjust(36525), Check.UNKNOWN);
             // 5 steps to 5, 4 back to 6, 3 back to 7
             StampDater stamp = new StampDater();
             Check.due("adjust to 050607", stamp.adjust(stamp.day(50607)), 5 + 4 + 3);
@@ -97,6 +99,8 @@ public final class EdgesOfActsTest {
             Check.due("slack stays at 99", stamp.band(2, 2), 99);
             Check.due("steps go on", stamp.count(6), 108);
         });
+        acts.test("- `place`: 0 to 5", "turn", () ->
+                Range.test("turn's place", 0, 5, Check.UNKNOWN, place -> new StampDater().turn(place, 1)));
         acts.test("- `steps`: -9 to 9, not 0: forward, or back if below 0", () -> {
             Range.outside("turn", -9, 9, Check.BAD_VALUE, steps -> new StampDater().turn(0, steps));
             Check.due("turn(0, 0)", new StampDater().turn(0, 0), Check.BAD_VALUE);
@@ -106,7 +110,6 @@ public final class EdgesOfActsTest {
             }
         });
         acts.test("Returns the digit that it shows then; UNKNOWN; BAD_VALUE.", () -> {
-            Range.test("turn's place", 0, 5, Check.UNKNOWN, place -> new StampDater().turn(place, 1));
             Range.outside("turn's place, steps 0", 0, 5, Check.UNKNOWN, place -> new StampDater().turn(place, 0));
             Range.outside("turn's place, steps 10", 0, 5, Check.UNKNOWN, place -> new StampDater().turn(place, 10));
             StampDater stamp = new StampDater();
@@ -193,9 +196,11 @@ public final class EdgesOfActsTest {
             Check.due("no step", stamp.count(6), 8);
             Check.due("four acts", stamp.count(11), 4);
         });
+        acts.test("- `place`: 0 to 5", "exchange", () ->
+                Range.test("exchange's place", 0, 5, Check.UNKNOWN, place -> new StampDater().exchange(place, 3)));
+        acts.test("- `other`: 0 to 5", "exchange", () ->
+                Range.test("exchange's other", 0, 5, Check.UNKNOWN, other -> new StampDater().exchange(2, other)));
         acts.test("Returns the band that is in the first place then; UNKNOWN; NONE if both are the same.", () -> {
-            Range.test("exchange's place", 0, 5, Check.UNKNOWN, place -> new StampDater().exchange(place, 3));
-            Range.test("exchange's other", 0, 5, Check.UNKNOWN, other -> new StampDater().exchange(2, other));
             Range.outside("exchange with itself", 0, 5, Check.UNKNOWN, place -> new StampDater().exchange(place, place));
             for (int place = 0; place < 6; place++) {
                 for (int other = 0; other < 6; other++) {
@@ -220,8 +225,9 @@ public final class EdgesOfActsTest {
             Check.due("the other one's slack stays", stamp.band(3, 2), 2);
             Check.due("three acts", stamp.count(11), 3);
         });
+        acts.test("- `place`: 0 to 5", "tighten", () ->
+                Range.test("tighten", 0, 5, Check.UNKNOWN, place -> new StampDater().tighten(place)));
         acts.test("Returns the slack that it had; UNKNOWN; NONE if it had none.", () -> {
-            Range.test("tighten", 0, 5, Check.UNKNOWN, place -> new StampDater().tighten(place));
             StampDater stamp = new StampDater();
             Check.due("none", stamp.tighten(2), Check.NONE);
             stamp.turn(2, -1);
@@ -256,8 +262,9 @@ public final class EdgesOfActsTest {
             fresh.replace(0);
             Check.due("an act also for a new one", fresh.count(11), 1);
         });
+        acts.test("- `place`: 0 to 5", "replace", () ->
+                Range.test("replace", 0, 5, Check.UNKNOWN, place -> new StampDater().replace(place)));
         acts.test("Returns the wear of all digits of the old one together; UNKNOWN.", () -> {
-            Range.test("replace", 0, 5, Check.UNKNOWN, place -> new StampDater().replace(place));
             StampDater stamp = new StampDater();
             Check.due("a new one", stamp.replace(3), 0);
             int all = 0;

@@ -34,8 +34,9 @@ public final class EdgesOfTellingTest {
                 }
             }
         });
+        telling.test("- `what`: 0 for the day of the month", () ->
+                Range.test("date's what", 0, 3, Check.BAD_VALUE, what -> new StampDater().date(5, what)));
         telling.test("Returns the number; UNKNOWN (day); BAD_VALUE.", () -> {
-            Range.test("date's what", 0, 3, Check.BAD_VALUE, what -> new StampDater().date(5, what));
             for (int what : new int[] {Check.MIN, -1, 4, Check.MAX}) {
                 Range.outside("date's day, what " + what, 0, Stamps.LAST_DAY, Check.UNKNOWN,
                         day -> new StampDater().date(day, what));
@@ -75,16 +76,20 @@ public final class EdgesOfTellingTest {
             stamp.turn(5, 1);
             Check.due("another digit", stamp.band(5, 6), 100 + 40 + 1);
         });
+        telling.test("- `place`: 0 to 5", "band", () ->
+                Range.test("band's place", 0, 5, Check.UNKNOWN, place -> new StampDater().band(place, 0)));
+        telling.test("- `what`: 0 for the number of its band", () ->
+                Range.test("band's what", 0, 6, Check.BAD_VALUE, what -> new StampDater().band(3, what)));
         telling.test("Returns the number; UNKNOWN; BAD_VALUE.", "band", () -> {
-            Range.test("band's place", 0, 5, Check.UNKNOWN, place -> new StampDater().band(place, 0));
-            Range.test("band's what", 0, 6, Check.BAD_VALUE, what -> new StampDater().band(3, what));
             for (int what : new int[] {Check.MIN, -1, 7, Check.MAX}) {
                 Range.outside("band's place, what " + what, 0, 5, Check.UNKNOWN, place -> new StampDater().band(place, what));
             }
         });
+        telling.test("- `place`: 0 to 5", "wear", () ->
+                Range.test("wear's place", 0, 5, Check.UNKNOWN, place -> new StampDater().wear(place, 0)));
+        telling.test("- `digit`: 0 to 9", () ->
+                Range.test("wear's digit", 0, 9, Check.BAD_VALUE, digit -> new StampDater().wear(3, digit)));
         telling.test("Returns the wear in the band in this place; UNKNOWN (place); BAD_VALUE.", () -> {
-            Range.test("wear's place", 0, 5, Check.UNKNOWN, place -> new StampDater().wear(place, 0));
-            Range.test("wear's digit", 0, 9, Check.BAD_VALUE, digit -> new StampDater().wear(3, digit));
             for (int digit : new int[] {Check.MIN, -1, 10, Check.MAX}) {
                 Range.outside("wear's place, digit " + digit, 0, 5, Check.UNKNOWN, place -> new StampDater().wear(place, digit));
             }
@@ -220,6 +225,11 @@ public final class EdgesOfTellingTest {
         });
         telling.test("6 for how many days agree with all its clear digits, 7 for the first such day (NONE without any)",
                 EdgesOfTellingTest::agreeingDays);
+        telling.test("- `what`: 0 for its six digits as one number", () -> {
+            StampDater stamp = new StampDater();
+            stamp.press(1, 1);
+            Range.test("print's what", 0, 7, Check.BAD_VALUE, what -> stamp.print(0, what));
+        });
         telling.test("Returns the number; UNKNOWN if there is no such print; BAD_VALUE.", () -> {
             StampDater stamp = new StampDater();
             Check.due("no print at first", stamp.print(0, 0), Check.UNKNOWN);
@@ -228,7 +238,7 @@ public final class EdgesOfTellingTest {
             Check.due("one", stamp.print(0, 5), 1);
             Check.due("no second", stamp.print(1, 5), Check.UNKNOWN);
             Check.due("no second, no such what", stamp.print(1, -1), Check.UNKNOWN);
-            Range.test("what", 0, 7, Check.BAD_VALUE, what -> stamp.print(0, what));
+            Check.due("one, no such what", stamp.print(0, 8), Check.BAD_VALUE);
             Range.outside("print, no such what", 0, 11, Check.UNKNOWN, print -> stamp.print(print, 8));
             stamp.undo();
             Check.due("none behind undo", stamp.print(0, 0), Check.UNKNOWN);
@@ -312,8 +322,10 @@ public final class EdgesOfTellingTest {
             Check.due("of two calls", stamp.rightOf(1), 3);
             Check.due("the next day", stamp.rightOf(2), 0);
         });
+        telling.test("- `day`: 0 to 36524", "rightOf", () ->
+                Range.test("rightOf", 0, Stamps.LAST_DAY, Check.UNKNOWN, day -> new StampDater().rightOf(day)));
         telling.test("Returns how many; UNKNOWN.", "rightOf", () -> {
-            Range.test("rightOf", 0, Stamps.LAST_DAY, Check.UNKNOWN, day -> new StampDater().rightOf(day));
+            Check.due("a day that there is not", new StampDater().rightOf(36525), Check.UNKNOWN);
             Check.due("none at first", new StampDater().rightOf(0), 0);
             StampDater last = Stamps.onDay(Stamps.LAST_DAY);
             last.adjust(Stamps.LAST_DAY);
@@ -373,8 +385,18 @@ public final class EdgesOfTellingTest {
                 Check.due("setting " + which, stamp.count(13 + which), new int[] {31, 101, 41}[which]);
             }
         });
-        telling.test("Returns the number; BAD_VALUE.", "count", () ->
-                Range.test("count", 0, 15, Check.BAD_VALUE, what -> new StampDater().count(what)));
+        telling.test("- `what`: 0 for the day of today, 1 for the ink", () -> {
+            Range.test("count's what", 0, 15, Check.BAD_VALUE, what -> new StampDater().count(what));
+            StampDater late = Stamps.onDay(Stamps.LAST_DAY);
+            Check.due("the last day", late.count(0), Stamps.LAST_DAY);
+            Check.due("ink at first", late.count(1), 100);
+            late.fill(200);
+            Check.due("the most ink", late.count(1), 200);
+        });
+        telling.test("Returns the number; BAD_VALUE.", "count", () -> {
+            Check.due("no such what", new StampDater().count(16), Check.BAD_VALUE);
+            Check.due("no such what", new StampDater().count(-1), Check.BAD_VALUE);
+        });
     }
 
     private static void shownDay() {
@@ -431,8 +453,10 @@ public final class EdgesOfTellingTest {
     // ---- what would be
 
     private static void stepsTo(Sentences telling) {
+        telling.test("- `day`: 0 to 36524", "stepsTo", () ->
+                Range.test("stepsTo", 0, Stamps.LAST_DAY, Check.UNKNOWN, day -> new StampDater().stepsTo(day)));
         telling.test("Returns how many; UNKNOWN.", "stepsTo", () -> {
-            Range.test("stepsTo", 0, Stamps.LAST_DAY, Check.UNKNOWN, day -> new StampDater().stepsTo(day));
+            Check.due("a day that there is not", new StampDater().stepsTo(36525), Check.UNKNOWN);
             StampDater stamp = new StampDater();
             Check.due("the first day", stamp.stepsTo(0), 2);
             Check.due("the last day", stamp.stepsTo(Stamps.LAST_DAY), 3 + 1 + 1 + 2 + 1 + 1);

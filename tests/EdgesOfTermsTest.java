@@ -219,14 +219,14 @@ public final class EdgesOfTermsTest {
         terms.test("0 the least darkness that is not faint (10 to 60; 30)", () -> {
             Check.due("at first", new StampDater().count(13), 30);
             // 8 + 100 / 4
-            Check.due("as dark as it", faintByOne(33), 0);
-            Check.due("one less", faintByOne(34), 63);
+            Check.due("as dark as it", faintOf(1, 33), 0);
+            Check.due("one less", faintOf(1, 34), 63);
         });
         terms.test("1 the greatest darkness that is not smudged (60 to 150; 100)", () -> {
             Check.due("at first", new StampDater().count(14), 100);
             // 72 + 100 / 4
-            Check.due("as dark as it", smudgedByNine(97), 0);
-            Check.due("one more", smudgedByNine(96), 63);
+            Check.due("as dark as it", smudgedOf(9, 97), 0);
+            Check.due("one more", smudgedOf(9, 96), 63);
         });
         terms.test("2 the slack by which a band is loose (1 to 99; 40)", () -> {
             Check.due("at first", new StampDater().count(15), 40);
@@ -239,18 +239,18 @@ public final class EdgesOfTermsTest {
         });
     }
 
-    private static int faintByOne(int setting) {
+    private static int faintOf(int strength, int setting) {
         StampDater stamp = new StampDater();
         stamp.set(0, setting);
-        stamp.press(1, 1);
+        stamp.press(strength, 1);
         Check.due("not smudged", stamp.print(0, 3), 0);
         return stamp.print(0, 2);
     }
 
-    private static int smudgedByNine(int setting) {
+    private static int smudgedOf(int strength, int setting) {
         StampDater stamp = new StampDater();
         stamp.set(1, setting);
-        stamp.press(9, 1);
+        stamp.press(strength, 1);
         Check.due("not faint", stamp.print(0, 2), 0);
         return stamp.print(0, 3);
     }
@@ -309,20 +309,6 @@ public final class EdgesOfTermsTest {
         Check.due("without ink, worn by 99", dry.band(0, 6), 100 + 40 - 99);
         dry.turn(0, 1);
         Check.due("without ink and wear", dry.band(0, 6), 100 + 40);
-    }
-
-    private static int faintOf(int strength, int setting) {
-        StampDater stamp = new StampDater();
-        stamp.set(0, setting);
-        stamp.press(strength, 1);
-        return stamp.print(0, 2);
-    }
-
-    private static int smudgedOf(int strength, int setting) {
-        StampDater stamp = new StampDater();
-        stamp.set(1, setting);
-        stamp.press(strength, 1);
-        return stamp.print(0, 3);
     }
 
     /** With both settings 60, of three neighbours the middle one alone is clear. */
@@ -632,5 +618,42 @@ public final class EdgesOfTermsTest {
         terms.test("`BAD_VALUE = -2`", () -> Check.due("BAD_VALUE", StampDater.BAD_VALUE, -2));
         terms.test("`FULL = -3`", () -> Check.due("FULL", StampDater.FULL, -3));
         terms.test("`NONE = -5`", () -> Check.due("NONE", StampDater.NONE, -5));
+        terms.test("Where several errors can apply, the order of the @return line is the order of the checks.",
+                EdgesOfTermsTest::severalErrors);
+        terms.test("NONE is no error; it is returned only if no error applies.", EdgesOfTermsTest::noneBehindErrors);
+    }
+
+    private static void severalErrors() {
+        StampDater stamp = Stamps.onDay(Stamps.LAST_DAY);
+        Check.due("pass: wrong, and beyond the last day", stamp.pass(1000), Check.BAD_VALUE);
+        Check.due("turn: place and steps", stamp.turn(6, 0), Check.UNKNOWN);
+        Check.due("turn: place and steps", stamp.turn(-1, -10), Check.UNKNOWN);
+        Check.due("date: day and what", stamp.date(36525, 4), Check.UNKNOWN);
+        Check.due("date: day and what", stamp.date(-1, -1), Check.UNKNOWN);
+        Check.due("band: place and what", stamp.band(6, 7), Check.UNKNOWN);
+        Check.due("wear: place and digit", stamp.wear(6, 10), Check.UNKNOWN);
+        Check.due("print: print and what", stamp.print(12, 8), Check.UNKNOWN);
+        Check.due("print: none yet, and what", stamp.print(0, 8), Check.UNKNOWN);
+        Stamps.type(stamp, "+1;");
+        Check.due("doAll: a fault, and beyond the last day", stamp.doAll(), -103);
+    }
+
+    private static void noneBehindErrors() {
+        StampDater stamp = Stamps.onDay(Stamps.LAST_DAY);
+        stamp.fill(200);
+        Check.due("fill: full already", stamp.fill(200), Check.NONE);
+        Check.due("fill: full already, and wrong", stamp.fill(201), Check.BAD_VALUE);
+        Check.due("exchange: the same", stamp.exchange(5, 5), Check.NONE);
+        Check.due("exchange: the same, but there is none", stamp.exchange(6, 6), Check.UNKNOWN);
+        Check.due("tighten: no slack", stamp.tighten(5), Check.NONE);
+        Check.due("tighten: no band", stamp.tighten(6), Check.UNKNOWN);
+        Check.due("set: so already", stamp.set(0, 30), Check.NONE);
+        Check.due("set: no such setting", stamp.set(3, 30), Check.BAD_VALUE);
+        Check.due("day: no date", stamp.day(999999), Check.NONE);
+        Check.due("day: too great", stamp.day(1000000), Check.BAD_VALUE);
+        Check.due("lasts: up to the last day", stamp.lasts(1, 1), Check.NONE);
+        Check.due("lasts: up to the last day, and wrong", stamp.lasts(1, 21), Check.BAD_VALUE);
+        Check.due("bestExchange: none", stamp.bestExchange(1, 1), Check.NONE);
+        Check.due("bestExchange: none, and wrong", stamp.bestExchange(0, 1), Check.BAD_VALUE);
     }
 }

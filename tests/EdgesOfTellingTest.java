@@ -262,7 +262,7 @@ public final class EdgesOfTellingTest {
         agree(withFaint(990000, 15), 366, 0);
         agree(withFaint(990099, 15), 365, 36524 - 364);
         int[] dates = datesOfAllDays();
-        for (int digits : new int[] {290200, 310499, 121257, 300230, 990911, 71308}) {
+        for (int digits : new int[] {290200, 310499, 121257, 300230, 990911, 71308, 310000, 319999}) {
             for (int places = 0; places <= 63; places++) {
                 agreeAsCounted(dates, digits, places);
             }
